@@ -1,0 +1,390 @@
+/** Promises 13 to 23: the moves and where boats are. */
+final class MovesTest {
+    public static void main(String[] args) {
+        lift();
+        liftReasons();
+        launch();
+        launchReasons();
+        shift();
+        shiftReasons();
+        shiftBehindItself();
+        comeBack();
+        nextWaiting();
+        whereBoatsAre();
+        Expect.end();
+    }
+
+    private static BoatCradle highWater() {
+        BoatCradle x = new BoatCradle();
+        x.setTide(600, 0, 0);
+        return x;
+    }
+
+    private static void lift() {
+        BoatCradle x = highWater();
+        Expect.noBoat("lift(0, 0), nothing there", () -> x.lift(0, 0));
+        x.addBoat(100, 30, 10, 0);
+        Expect.noBoat("lift(0, 0), no berth", () -> x.lift(0, 0));
+        x.addBerth(-1, 30, 10);
+        x.addBerth(-1, 29, 10);
+        x.addBerth(-1, 30, 9);
+        Expect.noBoat("lift(-1, 0)", () -> x.lift(-1, 0));
+        Expect.noBoat("lift(1, 0)", () -> x.lift(1, 0));
+        Expect.noBoat("lift(0, -1)", () -> x.lift(0, -1));
+        Expect.noBoat("lift(0, 3)", () -> x.lift(0, 3));
+        Expect.notPossible("lift(0, 1), too heavy", () -> x.lift(0, 1));
+        Expect.notPossible("lift(0, 2), too long", () -> x.lift(0, 2));
+        Expect.due("movedWeight", 0, () -> x.movedWeight());
+        Expect.due("lift(0, 0)", 1, () -> x.lift(0, 0));
+        Expect.due("state(0)", 'b', () -> x.state(0));
+        Expect.due("berthOf(0)", 0, () -> x.berthOf(0));
+        Expect.due("boatIn(0)", 0, () -> x.boatIn(0));
+        Expect.due("movedWeight", 30, () -> x.movedWeight());
+        Expect.notPossible("lift(0, 0) again", () -> x.lift(0, 0));
+        x.addBoat(100, 20, 5, 0);
+        Expect.notPossible("lift(1, 1), busy", () -> x.lift(1, 1));
+        Expect.due("state(1)", 'w', () -> x.state(1));
+        x.pass(1);
+        Expect.due("lift(1, 1)", 2, () -> x.lift(1, 1));
+        Expect.due("movedWeight", 50, () -> x.movedWeight());
+    }
+
+    private static void liftReasons() {
+        BoatCradle x = highWater();
+        Expect.noBoat("liftReason(0, 0)", () -> x.liftReason(0, 0));
+        x.addBerth(-1, 50, 20);
+        x.addBerth(0, 50, 20);
+        x.addBerth(-1, 200, 40);
+        x.addBerth(1, 50, 20);
+        x.addBerth(-1, 50, 20);
+        x.addBerth(-1, 60, 20);
+        x.addBoat(300, 60, 30, 0);
+        x.addBoat(50, 1, 1, 0);
+        x.addBoat(50, 1, 1, 0);
+        Expect.noBoat("liftReason(3, 0)", () -> x.liftReason(3, 0));
+        Expect.noBoat("liftReason(0, 6)", () -> x.liftReason(0, 6));
+        Expect.noBoat("liftReason(-1, 0)", () -> x.liftReason(-1, 0));
+        Expect.noBoat("liftReason(0, -1)", () -> x.liftReason(0, -1));
+        x.lift(0, 2);
+        x.pass(1);
+        x.launch(0);
+        x.pass(1);
+        x.lift(1, 1);
+        x.pass(1);
+        x.lift(2, 0);
+        x.tellWeather(3, 4);
+        x.setTide(0, 0, 0);
+        Expect.due("away, and all other reasons", 'a', () -> x.liftReason(0, 1));
+        Expect.notPossible("lift of a boat that is away", () -> x.lift(0, 1));
+        x.comeBack(0);
+        Expect.due("occupied, and what follows", 'o', () -> x.liftReason(0, 1));
+        Expect.due("in front occupied, and what follows", 'f', () -> x.liftReason(0, 3));
+        Expect.due("too heavy for the berth, and what follows", 'w', () -> x.liftReason(0, 4));
+        x.setCradle(59, 10);
+        Expect.due("too heavy for the cradle, and what follows", 'w', () -> x.liftReason(0, 5));
+        x.setCradle(60, 10);
+        Expect.due("too long, and what follows", 'l', () -> x.liftReason(0, 5));
+        Expect.due("no water, and what follows", 't', () -> x.liftReason(0, 2));
+        x.setTide(309, 0, 0);
+        Expect.due("a little less water than is needed", 't', () -> x.liftReason(0, 2));
+        x.setTide(310, 0, 0);
+        Expect.due("bad and busy", 'b', () -> x.liftReason(0, 2));
+        Expect.notPossible("lift while it is bad", () -> x.lift(0, 2));
+        x.pass(1);
+        Expect.due("none", 'n', () -> x.liftReason(0, 2));
+        x.launch(2);
+        Expect.due("busy", 'c', () -> x.liftReason(0, 2));
+        Expect.due("in front, though not directly", 'f', () -> x.liftReason(0, 3));
+        Expect.due("a boat in a berth", 'a', () -> x.liftReason(1, 2));
+        x.pass(1);
+        x.shift(1, 4);
+        x.pass(1);
+        x.comeBack(2);
+        x.lift(2, 0);
+        x.pass(1);
+        Expect.due("two berths ahead", 'f', () -> x.liftReason(0, 3));
+        Expect.due("lift(0, 2), the moves of all kinds", 8, () -> x.lift(0, 2));
+    }
+
+    private static void launch() {
+        BoatCradle x = highWater();
+        Expect.noBoat("launch(0)", () -> x.launch(0));
+        x.addBoat(100, 30, 10, 0);
+        x.addBerth(-1, 30, 10);
+        Expect.noBoat("launch(-1)", () -> x.launch(-1));
+        Expect.noBoat("launch(1)", () -> x.launch(1));
+        Expect.notPossible("launch(0), it waits", () -> x.launch(0));
+        Expect.due("lift(0, 0)", 1, () -> x.lift(0, 0));
+        Expect.notPossible("launch(0), busy", () -> x.launch(0));
+        Expect.due("state(0)", 'b', () -> x.state(0));
+        x.pass(1);
+        Expect.due("launch(0)", 2, () -> x.launch(0));
+        Expect.due("state(0)", 'a', () -> x.state(0));
+        Expect.noSuchElement("berthOf(0)", () -> x.berthOf(0));
+        Expect.noSuchElement("boatIn(0)", () -> x.boatIn(0));
+        Expect.due("movedWeight", 60, () -> x.movedWeight());
+        x.pass(1);
+        Expect.notPossible("launch(0), it is away", () -> x.launch(0));
+        Expect.due("movedWeight", 60, () -> x.movedWeight());
+    }
+
+    private static void launchReasons() {
+        BoatCradle x = highWater();
+        Expect.noBoat("launchReason(0)", () -> x.launchReason(0));
+        x.addBerth(-1, 10, 10);
+        x.addBerth(0, 60, 10);
+        x.addBerth(-1, 60, 10);
+        x.addBerth(1, 60, 10);
+        x.addBoat(300, 60, 10, 0);
+        x.addBoat(50, 1, 1, 0);
+        x.addBoat(50, 1, 1, 0);
+        Expect.noBoat("launchReason(3)", () -> x.launchReason(3));
+        Expect.noBoat("launchReason(-1)", () -> x.launchReason(-1));
+        x.setCradle(10, 10);
+        x.setTide(0, 0, 0);
+        Expect.due("it waits", 'a', () -> x.launchReason(0));
+        x.setCradle(60, 10);
+        x.setTide(310, 0, 0);
+        x.lift(0, 3);
+        x.pass(1);
+        x.lift(1, 0);
+        x.paint(0, 4);
+        x.tellWeather(1, 2);
+        x.setCradle(59, 10);
+        x.setTide(309, 0, 0);
+        Expect.due("not dry, and what follows", 'd', () -> x.launchReason(0));
+        x.pass(4);
+        Expect.due("one hour left", 'd', () -> x.launchReason(0));
+        x.pass(1);
+        x.setTide(310, 0, 0);
+        x.lift(2, 2);
+        x.tellWeather(6, 7);
+        x.setTide(309, 0, 0);
+        Expect.due("in front, two berths ahead, and what follows", 'f', () -> x.launchReason(0));
+        x.pass(1);
+        x.setTide(310, 0, 0);
+        x.launch(1);
+        x.tellWeather(7, 8);
+        x.setTide(309, 0, 0);
+        Expect.due("too heavy for the cradle, and what follows", 'w', () -> x.launchReason(0));
+        x.setCradle(60, 10);
+        Expect.due("no water, and what follows", 't', () -> x.launchReason(0));
+        x.setTide(310, 0, 0);
+        Expect.due("bad and busy", 'b', () -> x.launchReason(0));
+        x.pass(1);
+        Expect.due("none", 'n', () -> x.launchReason(0));
+        x.launch(2);
+        Expect.due("busy", 'c', () -> x.launchReason(0));
+        x.pass(1);
+        Expect.due("launch(0)", 6, () -> x.launch(0));
+        Expect.due("it is away", 'a', () -> x.launchReason(0));
+    }
+
+    private static void shift() {
+        BoatCradle x = highWater();
+        Expect.noBoat("shift(0, 0)", () -> x.shift(0, 0));
+        x.addBoat(100, 30, 10, 0);
+        x.addBoat(100, 7, 10, 0);
+        Expect.noBoat("shift(0, 0), no berth", () -> x.shift(0, 0));
+        x.addBerth(-1, 30, 10);
+        x.addBerth(-1, 30, 10);
+        Expect.noBoat("shift(2, 1)", () -> x.shift(2, 1));
+        Expect.noBoat("shift(0, 2)", () -> x.shift(0, 2));
+        Expect.noBoat("shift(-1, 1)", () -> x.shift(-1, 1));
+        Expect.noBoat("shift(0, -1)", () -> x.shift(0, -1));
+        Expect.notPossible("shift(0, 1), it waits", () -> x.shift(0, 1));
+        x.lift(0, 0);
+        Expect.notPossible("shift(0, 1), busy", () -> x.shift(0, 1));
+        x.pass(1);
+        Expect.notPossible("shift(0, 0), to its own berth", () -> x.shift(0, 0));
+        x.setTide(0, 0, 0);
+        Expect.due("shift(0, 1), without water", 2, () -> x.shift(0, 1));
+        Expect.due("berthOf(0)", 1, () -> x.berthOf(0));
+        Expect.due("boatIn(1)", 0, () -> x.boatIn(1));
+        Expect.noSuchElement("boatIn(0)", () -> x.boatIn(0));
+        Expect.due("state(0)", 'b', () -> x.state(0));
+        Expect.due("movedWeight", 60, () -> x.movedWeight());
+        x.setTide(600, 0, 0);
+        x.pass(1);
+        x.lift(1, 0);
+        x.pass(1);
+        Expect.notPossible("shift(0, 0), occupied", () -> x.shift(0, 0));
+        Expect.due("berthOf(0)", 1, () -> x.berthOf(0));
+        Expect.due("movedWeight", 67, () -> x.movedWeight());
+    }
+
+    private static void shiftReasons() {
+        BoatCradle x = highWater();
+        Expect.noBoat("shiftReason(0, 0)", () -> x.shiftReason(0, 0));
+        x.addBerth(-1, 200, 40);
+        x.addBerth(0, 200, 40);
+        x.addBerth(-1, 59, 9);
+        x.addBerth(2, 59, 9);
+        x.addBerth(-1, 60, 9);
+        x.addBerth(-1, 200, 40);
+        x.addBoat(300, 60, 10, 0);
+        x.addBoat(50, 1, 1, 0);
+        x.addBoat(50, 1, 1, 0);
+        Expect.noBoat("shiftReason(3, 0)", () -> x.shiftReason(3, 0));
+        Expect.noBoat("shiftReason(0, 6)", () -> x.shiftReason(0, 6));
+        Expect.noBoat("shiftReason(-1, 0)", () -> x.shiftReason(-1, 0));
+        Expect.noBoat("shiftReason(0, -1)", () -> x.shiftReason(0, -1));
+        x.lift(1, 2);
+        x.tellWeather(0, 1);
+        Expect.due("it waits, and what follows", 'a', () -> x.shiftReason(0, 2));
+        x.pass(1);
+        x.lift(0, 1);
+        x.pass(1);
+        x.paint(0, 4);
+        x.lift(2, 0);
+        x.tellWeather(2, 3);
+        Expect.due("not dry, and what follows", 'd', () -> x.shiftReason(0, 2));
+        Expect.due("not dry, and its own berth", 'd', () -> x.shiftReason(0, 1));
+        x.pass(5);
+        x.shift(2, 5);
+        x.tellWeather(7, 8);
+        Expect.due("occupied, and what follows", 'o', () -> x.shiftReason(0, 2));
+        Expect.due("its own berth", 'o', () -> x.shiftReason(0, 1));
+        Expect.due("in front of the other one", 'f', () -> x.shiftReason(0, 3));
+        x.pass(1);
+        x.shift(2, 0);
+        x.forgetWeather();
+        x.tellWeather(8, 9);
+        Expect.due("in front of its berth, and what follows", 'f', () -> x.shiftReason(0, 4));
+        Expect.due("occupied and in front of its berth", 'o', () -> x.shiftReason(0, 0));
+        x.pass(1);
+        x.shift(2, 5);
+        x.pass(1);
+        x.shift(1, 0);
+        x.pass(1);
+        x.shift(1, 4);
+        x.tellWeather(11, 12);
+        Expect.due("too heavy for the berth, and what follows", 'w', () -> x.shiftReason(0, 2));
+        Expect.due("too heavy for one behind", 'w', () -> x.shiftReason(0, 3));
+        x.pass(1);
+        x.shift(1, 2);
+        x.tellWeather(12, 13);
+        x.setCradle(59, 0);
+        Expect.due("too heavy for the cradle, and what follows", 'w', () -> x.shiftReason(0, 4));
+        x.setCradle(60, 0);
+        Expect.due("too long, and what follows", 'l', () -> x.shiftReason(0, 4));
+        x.setTide(0, 0, 0);
+        Expect.due("bad and busy, without water", 'b', () -> x.shiftReason(0, 0));
+        x.pass(1);
+        Expect.due("none", 'n', () -> x.shiftReason(0, 0));
+        x.shift(1, 4);
+        Expect.due("busy", 'c', () -> x.shiftReason(0, 0));
+        x.pass(1);
+        x.tellWeather(14, 15);
+        Expect.due("bad", 'b', () -> x.shiftReason(0, 0));
+        Expect.notPossible("shift while it is bad", () -> x.shift(0, 0));
+        x.pass(1);
+        Expect.due("shift(0, 0)", 11, () -> x.shift(0, 0));
+    }
+
+    private static void shiftBehindItself() {
+        BoatCradle x = highWater();
+        x.addBerth(-1, 9, 9);
+        x.addBerth(0, 9, 9);
+        x.addBerth(1, 9, 9);
+        x.addBoat(50, 9, 9, 0);
+        x.addBoat(50, 9, 9, 0);
+        x.lift(0, 0);
+        x.pass(1);
+        Expect.due("shiftReason(0, 1), behind its own berth", 'n', () -> x.shiftReason(0, 1));
+        Expect.due("shift(0, 2), two behind", 2, () -> x.shift(0, 2));
+        x.pass(1);
+        x.lift(1, 0);
+        x.pass(1);
+        Expect.due("shiftReason(1, 2)", 'o', () -> x.shiftReason(1, 2));
+        Expect.due("shiftReason(0, 1)", 'f', () -> x.shiftReason(0, 1));
+        Expect.due("shift(1, 1)", 4, () -> x.shift(1, 1));
+        x.pass(1);
+        Expect.due("shiftReason(0, 0), through another one", 'f', () -> x.shiftReason(0, 0));
+        Expect.due("shiftReason(1, 0)", 'n', () -> x.shiftReason(1, 0));
+    }
+
+    private static void comeBack() {
+        BoatCradle x = highWater();
+        Expect.noBoat("comeBack(0)", () -> x.comeBack(0));
+        x.addBerth(-1, 9, 9);
+        x.addBoat(50, 9, 9, 0);
+        x.addBoat(50, 9, 9, 0);
+        Expect.noBoat("comeBack(2)", () -> x.comeBack(2));
+        Expect.noBoat("comeBack(-1)", () -> x.comeBack(-1));
+        Expect.notPossible("comeBack(0), it waits", () -> x.comeBack(0));
+        x.lift(0, 0);
+        Expect.notPossible("comeBack(0), in a berth", () -> x.comeBack(0));
+        x.pass(1);
+        x.launch(0);
+        Expect.due("comeBack(0)", 2, () -> x.comeBack(0));
+        Expect.due("state(0)", 'w', () -> x.state(0));
+        Expect.notPossible("comeBack(0) again", () -> x.comeBack(0));
+        x.pass(1);
+        x.lift(1, 0);
+        x.pass(1);
+        x.launch(1);
+        x.pass(1);
+        x.lift(0, 0);
+        Expect.due("comeBack(1)", 1, () -> x.comeBack(1));
+    }
+
+    private static void nextWaiting() {
+        BoatCradle x = highWater();
+        Expect.noSuchElement("nextWaiting", () -> x.nextWaiting());
+        x.addBerth(-1, 200, 40);
+        x.addBerth(-1, 200, 40);
+        x.addBoat(50, 20, 9, 0);
+        Expect.due("nextWaiting of one", 0, () -> x.nextWaiting());
+        x.addBoat(50, 30, 9, 5);
+        Expect.due("the greatest rank", 1, () -> x.nextWaiting());
+        x.addBoat(50, 25, 9, 5);
+        Expect.due("the least weight", 2, () -> x.nextWaiting());
+        x.addBoat(50, 25, 9, 5);
+        x.addBoat(50, 1, 9, 4);
+        Expect.due("the lowest number", 2, () -> x.nextWaiting());
+        x.addBoat(50, 200, 9, 9);
+        Expect.due("the greatest rank, though heavy", 5, () -> x.nextWaiting());
+        x.setCradle(200, 0);
+        x.lift(5, 0);
+        Expect.due("one in a berth does not wait", 2, () -> x.nextWaiting());
+        x.pass(1);
+        x.launch(5);
+        Expect.due("one away does not wait", 2, () -> x.nextWaiting());
+        x.comeBack(5);
+        Expect.due("it waits again", 5, () -> x.nextWaiting());
+        BoatCradle y = highWater();
+        y.addBerth(-1, 200, 40);
+        y.addBoat(50, 20, 9, 0);
+        y.lift(0, 0);
+        Expect.noSuchElement("nextWaiting, all in berths", () -> y.nextWaiting());
+    }
+
+    private static void whereBoatsAre() {
+        BoatCradle x = highWater();
+        Expect.noBoat("state(0)", () -> x.state(0));
+        Expect.noBoat("berthOf(0)", () -> x.berthOf(0));
+        Expect.noBoat("boatIn(0)", () -> x.boatIn(0));
+        x.addBerth(-1, 200, 40);
+        x.addBerth(-1, 200, 40);
+        x.addBoat(50, 20, 9, 0);
+        x.addBoat(50, 20, 9, 0);
+        Expect.noBoat("state(-1)", () -> x.state(-1));
+        Expect.noBoat("state(2)", () -> x.state(2));
+        Expect.noBoat("berthOf(-1)", () -> x.berthOf(-1));
+        Expect.noBoat("berthOf(2)", () -> x.berthOf(2));
+        Expect.noBoat("boatIn(-1)", () -> x.boatIn(-1));
+        Expect.noBoat("boatIn(2)", () -> x.boatIn(2));
+        Expect.noSuchElement("berthOf(1)", () -> x.berthOf(1));
+        Expect.noSuchElement("boatIn(1)", () -> x.boatIn(1));
+        x.lift(1, 1);
+        Expect.due("state(1)", 'b', () -> x.state(1));
+        Expect.due("berthOf(1)", 1, () -> x.berthOf(1));
+        Expect.due("boatIn(1)", 1, () -> x.boatIn(1));
+        Expect.noSuchElement("boatIn(0)", () -> x.boatIn(0));
+        Expect.due("state(0)", 'w', () -> x.state(0));
+        x.pass(1);
+        x.launch(1);
+        Expect.due("state(1)", 'a', () -> x.state(1));
+    }
+}
