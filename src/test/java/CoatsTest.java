@@ -102,7 +102,7 @@ final class CoatsTest {
         x.tellWeather(21, 22);
         x.tellWeather(22, 23);
         bothDry(x, 0, 25);
-        x.tellWeather(0 + 2, 9999);
+        x.tellWeather(2, 9999);
         bothDry(x, 0, 10009);
         x.pass(1);
         bothDry(x, 0, 10009);
