@@ -54,7 +54,7 @@ final class RandomTest {
         for (int count = 0; count < 512; count++) {
             String call = nextCall(count, crowded);
             int[] numbers = numbersOf(call, roomy);
-            String got = Expect.answer(() -> answer(real, call, numbers));
+            String got = Expect.answer(() -> Calls.call(real, call, numbers));
             String want = plain.answer(call, numbers);
             if (!got.equals(want)) {
                 return "call " + count + ", " + call + Arrays.toString(numbers)
@@ -114,44 +114,5 @@ final class RandomTest {
     private int[] span() {
         int from = random.nextInt(8) > 0 ? hour + between(0, 12) : between(0, 9999);
         return new int[] {from, from + between(1, random.nextInt(8) > 0 ? 6 : 500)};
-    }
-
-    private static Object answer(BoatCradle x, String call, int[] a) {
-        switch (call) {
-            case "addBerth": return x.addBerth(a[0], a[1], a[2]);
-            case "addBoat": return x.addBoat(a[0], a[1], a[2], a[3]);
-            case "setTide": return x.setTide(a[0], a[1], a[2]);
-            case "setCradle": return x.setCradle(a[0], a[1]);
-            case "tellWeather": return x.tellWeather(a[0], a[1]);
-            case "forgetWeather": return x.forgetWeather();
-            case "level": return x.level(a[0]);
-            case "isBad": return x.isBad(a[0]);
-            case "floodHours": return x.floodHours(a[0], a[1]);
-            case "floodByHours": return x.floodByHours(a[0], a[1]);
-            case "nextFlood": return x.nextFlood(a[0]);
-            case "lift": return x.lift(a[0], a[1]);
-            case "liftReason": return x.liftReason(a[0], a[1]);
-            case "launch": return x.launch(a[0]);
-            case "launchReason": return x.launchReason(a[0]);
-            case "shift": return x.shift(a[0], a[1]);
-            case "shiftReason": return x.shiftReason(a[0], a[1]);
-            case "comeBack": return x.comeBack(a[0]);
-            case "nextWaiting": return x.nextWaiting();
-            case "state": return x.state(a[0]);
-            case "berthOf": return x.berthOf(a[0]);
-            case "boatIn": return x.boatIn(a[0]);
-            case "paint": return x.paint(a[0], a[1]);
-            case "dryLeft": return x.dryLeft(a[0]);
-            case "dryAt": return x.dryAt(a[0]);
-            case "dryByHours": return x.dryByHours(a[0]);
-            case "pass": return x.pass(a[0]);
-            case "time": return x.time();
-            case "leastShifted": return x.leastShifted(a[0]);
-            case "leastByRounds": return x.leastByRounds(a[0]);
-            case "movedWeight": return x.movedWeight();
-            case "usedShare": return x.usedShare();
-            case "meanDraught": return x.meanDraught();
-            default: throw new AssertionError(call);
-        }
     }
 }
